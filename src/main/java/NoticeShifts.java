@@ -52,7 +52,7 @@ public final class NoticeShifts {
         if (now.sentences.size >= MOST_SENTENCES || now.nextMark >= MOST_MARKS) {
             return TOO_MANY;
         }
-        history.record(now);
+        history.keep(now);
         now.insertSentence(place, length);
         return now.sentences.marks[place];
     }
@@ -64,7 +64,7 @@ public final class NoticeShifts {
         if (now.sentences.size == 1) {
             return NOT_POSSIBLE;
         }
-        history.record(now);
+        history.keep(now);
         int mark = now.sentences.marks[sentence];
         now.removeSentence(sentence);
         return mark;
@@ -77,7 +77,7 @@ public final class NoticeShifts {
         if (!isWithin(length, 1, MOST_LENGTH)) {
             return BAD_VALUE;
         }
-        history.record(now);
+        history.keep(now);
         int previous = now.sentences.lengths[sentence];
         now.sentences.lengths[sentence] = length;
         return previous;
@@ -91,7 +91,7 @@ public final class NoticeShifts {
         if (sentence == 0 || now.sentences.begins[sentence] == wanted) {
             return NOT_POSSIBLE;
         }
-        history.record(now);
+        history.keep(now);
         now.sentences.begins[sentence] = wanted;
         return now.sentences.chapters();
     }
@@ -105,7 +105,7 @@ public final class NoticeShifts {
         if (now.notices >= MOST_NOTICES) {
             return TOO_MANY;
         }
-        history.record(now);
+        history.keep(now);
         int number = now.notices;
         now.noticeLengths[number] = length;
         now.noticeGroups[number] = groups;
@@ -120,7 +120,7 @@ public final class NoticeShifts {
         if (now.isRowFull(sentence)) {
             return TOO_MANY;
         }
-        history.record(now);
+        history.keep(now);
         now.appendToRow(sentence, notice);
         return now.rowSizes[sentence];
     }
@@ -129,7 +129,7 @@ public final class NoticeShifts {
         if (!now.hasSentence(sentence)) {
             return NO_SUCH;
         }
-        history.record(now);
+        history.keep(now);
         int previous = now.rowSizes[sentence];
         now.rowSizes[sentence] = 0;
         return previous;
@@ -143,7 +143,7 @@ public final class NoticeShifts {
         if (rows > now.sentences.size || pad.highestNotice() >= now.notices) {
             return NO_SUCH;
         }
-        history.record(now);
+        history.keep(now);
         takeRows();
         pad.length = 0;
         return rows;
@@ -156,7 +156,7 @@ public final class NoticeShifts {
         if (now.listeners >= MOST_LISTENERS) {
             return TOO_MANY;
         }
-        history.record(now);
+        history.keep(now);
         int number = now.listeners;
         now.groups[number] = group;
         now.bounds[number] = bound;
@@ -172,7 +172,7 @@ public final class NoticeShifts {
         if (throwsAway && !now.hasFile[listener]) {
             return NOT_POSSIBLE;
         }
-        history.record(now);
+        history.keep(now);
         now.hasFile[listener] = !throwsAway;
         if (!throwsAway) {
             hearNow(listener, now.files[listener]);
@@ -449,7 +449,7 @@ public final class NoticeShifts {
         if (!isSaved[slot]) {
             return NOT_POSSIBLE;
         }
-        history.record(now);
+        history.keep(now);
         now.copyFrom(slots[slot]);
         return now.sentences.size;
     }
@@ -562,7 +562,7 @@ public final class NoticeShifts {
         int hearers = 0;
         for (int listener = 0; listener < now.listeners; listener++) {
             chooseAll(listener, now.bounds[listener]);
-            hearers += chooser.chosenSet >> notice & 1;
+            hearers += (chooser.chosenSet >> notice) & 1;
         }
         return hearers;
     }
@@ -765,8 +765,8 @@ public final class NoticeShifts {
         }
 
         boolean isFor(State state, int notice) {
-            boolean isForGroup = (state.noticeGroups[notice] >> group & 1) == 1;
-            boolean wasHeard = (chosenSet >> notice & 1) == 1;
+            boolean isForGroup = ((state.noticeGroups[notice] >> group) & 1) == 1;
+            boolean wasHeard = ((chosenSet >> notice) & 1) == 1;
             return isForGroup && !wasHeard;
         }
     }
@@ -899,7 +899,7 @@ public final class NoticeShifts {
             }
         }
 
-        void record(State state) {
+        void keep(State state) {
             states[next].copyFrom(state);
             next = next == MOST_STATES - 1 ? 0 : next + 1;
             size = Math.min(size + 1, MOST_STATES);
@@ -923,7 +923,7 @@ public final class NoticeShifts {
 
         static int countCharacters(long packed) {
             int found = 0;
-            for (int place = 0; place < MOST_AT_ONCE && packed >>> 8 * place != 0; place++) {
+            for (int place = 0; place < MOST_AT_ONCE && packed >>> (8 * place) != 0; place++) {
                 if (!isWithin(characterAt(packed, place), 33, 126)) {
                     return BAD_VALUE;
                 }
@@ -934,7 +934,7 @@ public final class NoticeShifts {
 
         /** The place is counted from the last character. */
         static char characterAt(long packed, int place) {
-            return (char) (packed >>> 8 * place & 255);
+            return (char) ((packed >>> (8 * place)) & 255);
         }
 
         void append(long packed, int added) {

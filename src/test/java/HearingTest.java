@@ -108,6 +108,9 @@ public final class HearingTest {
         checks.due("19: by the sentences of the file", x.whenHeard(0, 34), 57);
         checks.due("19: by the sentences of the file", x.whenHeard(0, 35), NONE);
         checks.due("19: of now", x.whenHeard(1, 35), 43);
+        x.cutOut(2);
+        checks.due("19: of now, a sentence less", x.whenHeard(1, 304), 312);
+        checks.due("19: of now, a sentence less", x.whenHeard(1, 305), NONE);
     }
 
     private static void heardAt() {
@@ -188,6 +191,9 @@ public final class HearingTest {
     private static void wrongAt() {
         NoticeShifts x = three();
         checks.due("23: in the notices of both", x.wrongAt(0, 1, 3), 0);
+        checks.due("23: at the time 0", x.wrongAt(0, 1, 0), 0);
+        checks.due("23: a notice counts as the first moment behind it", x.wrongAt(0, 2, 0), 0);
+        checks.due("23: a notice counts as the first moment behind it", x.wrongAt(0, 2, 9), 9);
         checks.due("23: in a notice of the one", x.wrongAt(0, 1, 14), 6);
         checks.due("23: without signs", x.wrongAt(1, 0, 14), 6);
         checks.due("23: in a notice of the sentence 2", x.wrongAt(0, 1, 37), 14);

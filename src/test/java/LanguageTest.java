@@ -10,10 +10,11 @@ import java.util.regex.Pattern;
 public final class LanguageTest {
     private static final Checks checks = new Checks();
 
+    // some of them the rules leave for a few uses, but the program needs none of these
     private static final Set<String> WORDS_THAT_ARE_OUT = Set.of(
         "throw", "throws", "try", "catch", "finally", "synchronized", "assert", "package", "import", "volatile",
         "native", "transient", "protected", "Object", "Thread", "Random", "Class", "equals", "hashCode", "toString",
-        "NaN", "var", "yield", "strictfp", "sealed", "instanceof", "null");
+        "NaN", "var", "yield", "strictfp", "sealed");
 
     private static final Set<String> LIBRARY = Set.of("System", "Math", "NoticeShifts");
 

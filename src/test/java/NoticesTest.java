@@ -20,6 +20,8 @@ public final class NoticesTest {
         outOfDate();
         count();
         longest();
+        nothingIsLeftOver();
+        allPlacesTaken();
         checks.finish();
     }
 
@@ -137,6 +139,72 @@ public final class NoticesTest {
         checks.due("30: the file of before", x.of(0, 4), 14);
     }
 
+    /** What was there ahead of an undo or a restore is not taken for what is there now. */
+    private static void nothingIsLeftOver() {
+        NoticeShifts x = new NoticeShifts();
+        x.save(0);
+        x.notice(4, 1);
+        x.listener(0, 600);
+        x.book(0, 0);
+        x.load(0, false);
+        x.save(1);
+        x.restore(0);
+        x.notice(9, 2);
+        x.listener(1, 600);
+        checks.due("10: without a file", x.of(0, 2), 0);
+        checks.due("10: without a file", x.of(0, 4), 10);
+        x.book(0, 0);
+        checks.due("11: the other file", x.load(0, false), 19);
+        checks.due("32: restored", x.restore(1), 1);
+        checks.due("32: the group", x.of(0, 0), 0);
+        checks.due("32: the groups", x.ofNotice(0, 1), 1);
+        checks.due("32: the file", x.of(0, 4), 14);
+        checks.due("32: its notice", x.heard(0, 0), 0);
+        checks.due("32: it is up to date", x.of(0, 3), 0);
+        checks.due("30: undone", x.undo(), 5);
+        checks.due("30: the file", x.of(0, 4), 19);
+    }
+
+    /** Whatever is looked at, nothing lies behind the last place. */
+    private static void allPlacesTaken() {
+        NoticeShifts x = new NoticeShifts();
+        for (int number = 0; number < 8; number++) {
+            x.notice(120, 63);
+        }
+        for (int sentence = 1; sentence < 24; sentence++) {
+            x.putIn(sentence, 300);
+            x.chapter(sentence, true);
+        }
+        for (int place = 0; place < 96; place++) {
+            x.book(place % 24, place % 8);
+        }
+        for (int number = 0; number < 6; number++) {
+            x.listener(number, 600 - number);
+            x.load(number, false);
+        }
+        checks.due("17: files up to date", x.count(5), 0);
+        checks.due("17: the longest", x.count(6), 0);
+        for (int number = 0; number < 6; number++) {
+            int seconds = number == 0 ? 600 : 480;
+            checks.due("16: length", x.of(number, 4), 10 + 23 * 300 + seconds);
+            checks.due("16: notices", x.of(number, 5), seconds / 120);
+            checks.due("26: enough", x.enough(number), 600);
+        }
+        checks.due("15: breaks", x.ofNotice(7, 2), 3);
+        checks.due("15: listeners", x.ofNotice(3, 3), 6);
+        checks.due("15: listeners", x.ofNotice(4, 3), 1);
+        checks.due("25: all rows have 4", x.bestBreak(0, 0), NONE);
+        checks.due("24: the row has 4", x.ifBooked(23, 0), TOO_MANY);
+        x.empty(23);
+        checks.due("25: the last one", x.bestBreak(7, 0), 23);
+        checks.due("24: the last one", x.ifBooked(23, 7), 10000);
+        checks.due("13: the last one", x.marked(23), 23);
+        checks.due("3: the last one", x.cutOut(23), 23);
+        checks.due("3: the first one", x.cutOut(0), 0);
+        checks.due("17: all out of date", x.count(5), 63);
+        checks.due("17: length", x.count(1), 22 * 300);
+    }
+
     private static void booked() {
         NoticeShifts x = new NoticeShifts();
         x.notice(4, 1);
@@ -240,6 +308,9 @@ public final class NoticesTest {
         x.change(1, 11);
         checks.due("16: a length", x.of(0, 3), 1);
         x.restore(0);
+        x.change(0, 9);
+        checks.due("16: the length of the first one", x.of(0, 3), 1);
+        x.restore(0);
         x.chapter(1, true);
         checks.due("16: a chapter", x.of(0, 3), 1);
         x.chapter(1, false);
@@ -296,5 +367,17 @@ public final class NoticesTest {
         x.load(2, false);
         x.change(0, 1);
         checks.due("17: with the file", x.count(6), 2);
+        x.load(2, true);
+        x.listener(0, 600);
+        x.notice(30, 63);
+        x.empty(0);
+        x.book(0, 1);
+        checks.due("17: the last one", x.count(6), 3);
+        x.undo();
+        x.undo();
+        x.undo();
+        x.undo();
+        checks.due("17: without the last one", x.count(6), 1);
+        checks.due("15: without the last one", x.ofNotice(0, 3), 2);
     }
 }

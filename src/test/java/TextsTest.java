@@ -18,6 +18,8 @@ public final class TextsTest {
         read();
         readWithErrors();
         readAndUndo();
+        readBehindAWipe();
+        readAFullPad();
         checks.finish();
     }
 
@@ -146,6 +148,9 @@ public final class TextsTest {
         Checks.putAll(x, "01");
         checks.due("9: no such notice", x.read(), NO_SUCH);
         checks.due("9: nothing was taken", x.sentence(0, 5), 0);
+        x.wipe();
+        Checks.putAll(x, "10");
+        checks.due("9: no such notice", x.read(), NO_SUCH);
         checks.due("9: no error recorded", x.count(8), 1);
         x.notice(6, 1);
         checks.due("9: now there is one", x.read(), 1);
@@ -154,6 +159,34 @@ public final class TextsTest {
         x.undo();
         Checks.putAll(x, ".");
         checks.due("9: an empty row", x.read(), 1);
+    }
+
+    private static void readBehindAWipe() {
+        NoticeShifts x = new NoticeShifts();
+        x.notice(5, 1);
+        Checks.putAll(x, "07");
+        x.wipe();
+        x.put('0');
+        checks.due("28: nothing is left of the 7", x.read(), 1);
+        checks.due("28: nothing is left of the 7", x.sentence(0, 5), 1);
+        x.notice(6, 1);
+        Checks.putAll(x, "01");
+        x.wipe();
+        x.put('0');
+        x.read();
+        checks.due("28: nothing is left of the 1", x.sentence(0, 5), 1);
+    }
+
+    private static void readAFullPad() {
+        NoticeShifts x = new NoticeShifts();
+        x.notice(5, 1);
+        for (int s = 1; s < 13; s++) {
+            x.putIn(s, 5);
+        }
+        checks.due("27: 60", Checks.putAll(x, "0000/".repeat(9) + "000/000/000/000"), 60);
+        checks.due("9: thirteen rows", x.read(), 13);
+        checks.due("9: a row of 4", x.sentence(8, 5), 4);
+        checks.due("9: a row of 3", x.sentence(12, 5), 3);
     }
 
     private static void readAndUndo() {
