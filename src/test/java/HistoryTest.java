@@ -1,3 +1,5 @@
+import java.util.function.Supplier;
+
 /** Promises 30 to 32: undo and saved states. */
 public final class HistoryTest {
     private static final int NO_SUCH = NoticeShifts.NO_SUCH;
@@ -94,20 +96,35 @@ public final class HistoryTest {
     }
 
     private static void eachChangeIsRecorded() {
-        for (int change = 0; change < CHANGES; change++) {
-            NoticeShifts x = full();
-            x.change(1, 21);
-            x.save(1);
-            x.undo();
-            Checks.putAll(x, "1/./0");
-            checks.due("30: one state ahead of change " + change, x.count(8), 1);
-            String before = Picture.of(x);
-            checks.holds("30: no error of change " + change, make(x, change) >= 0);
-            checks.due("30: change " + change + " is recorded", x.count(8), 2);
-            checks.holds("30: change " + change + " is one", !Picture.of(x).equals(before));
-            checks.due("30: undo of change " + change, x.undo(), 1);
-            checks.holds("30: as before change " + change, Picture.of(x).equals(before));
+        for (int number = 0; number < CHANGES; number++) {
+            int change = number;
+            Supplier<NoticeShifts> before = HistoryTest::readyForAllChanges;
+            Supplier<NoticeShifts> behind = () -> {
+                NoticeShifts x = before.get();
+                make(x, change);
+                return x;
+            };
+            Supplier<NoticeShifts> undone = () -> {
+                NoticeShifts x = behind.get();
+                x.undo();
+                return x;
+            };
+            checks.due("30: one state ahead of change " + change, before.get().count(8), 1);
+            checks.holds("30: no error of change " + change, make(before.get(), change) >= 0);
+            checks.due("30: change " + change + " is recorded", behind.get().count(8), 2);
+            checks.holds("30: change " + change + " is one", !Picture.of(behind).equals(Picture.of(before)));
+            checks.due("30: undo of change " + change, behind.get().undo(), 1);
+            checks.holds("30: as before change " + change, Picture.of(undone).equals(Picture.of(before)));
         }
+    }
+
+    private static NoticeShifts readyForAllChanges() {
+        NoticeShifts x = full();
+        x.change(1, 21);
+        x.save(1);
+        x.undo();
+        Checks.putAll(x, "1/./0");
+        return x;
     }
 
     private static void changesWithoutDifference() {
@@ -129,17 +146,23 @@ public final class HistoryTest {
     }
 
     private static void errorsAreNotRecorded() {
-        NoticeShifts x = full();
-        String before = Picture.of(x);
-        int[] answers = {
+        for (int answer : errors(full())) {
+            checks.holds("30: an error", answer < 0);
+        }
+        Supplier<NoticeShifts> behind = () -> {
+            NoticeShifts x = full();
+            errors(x);
+            return x;
+        };
+        checks.due("30: no error recorded", behind.get().count(8), 1);
+        checks.holds("30: no error changes anything", Picture.of(behind).equals(Picture.of(HistoryTest::full)));
+    }
+
+    private static int[] errors(NoticeShifts x) {
+        return new int[] {
             x.putIn(4, 5), x.putIn(0, 0), x.cutOut(3), x.change(3, 5), x.change(0, 0), x.chapter(3, true),
             x.chapter(2, true), x.notice(0, 1), x.book(3, 0), x.book(0, 2), x.empty(3), x.read(),
             x.listener(6, 0), x.load(2, false), x.load(1, true), x.restore(1), x.restore(2), x.save(2)};
-        for (int call = 0; call < answers.length; call++) {
-            checks.holds("30: an error of call " + call, answers[call] < 0);
-        }
-        checks.due("30: no error recorded", x.count(8), 1);
-        checks.holds("30: no error changes anything", Picture.of(x).equals(before));
     }
 
     private static void undoLeavesPadAndSlots() {
@@ -204,15 +227,22 @@ public final class HistoryTest {
     }
 
     private static void restoreBringsAllBack() {
-        NoticeShifts x = full();
-        String before = Picture.of(x);
-        for (int change = 0; change < CHANGES - 1; change++) {
-            Checks.putAll(x, "1/./0");
-            make(x, change);
-        }
-        checks.holds("32: much has changed", !Picture.of(x).equals(before));
-        checks.due("32: restored", x.restore(0), 3);
-        checks.holds("32: all is as it was", Picture.of(x).equals(before));
-        checks.due("32: the next mark, too", x.putIn(0, 5), 3);
+        Supplier<NoticeShifts> changed = () -> {
+            NoticeShifts x = full();
+            for (int change = 0; change < CHANGES - 1; change++) {
+                Checks.putAll(x, "1/./0");
+                make(x, change);
+            }
+            return x;
+        };
+        Supplier<NoticeShifts> restored = () -> {
+            NoticeShifts x = changed.get();
+            x.restore(0);
+            return x;
+        };
+        checks.holds("32: much has changed", !Picture.of(changed).equals(Picture.of(HistoryTest::full)));
+        checks.due("32: restored", changed.get().restore(0), 3);
+        checks.holds("32: all is as it was", Picture.of(restored).equals(Picture.of(HistoryTest::full)));
+        checks.due("32: the next mark, too", restored.get().putIn(0, 5), 3);
     }
 }
