@@ -221,6 +221,19 @@ final class HistoryEdges extends Edges {
         x.restore(0);
         due("when the history has long dropped it", x.sentence(0, 1), 20);
 
+        NoticeShifts other = new NoticeShifts();
+        other.save(0);
+        notices(other, 5).listener(0, 600);
+        other.save(1);
+        other.restore(0);
+        other.notice(9, 2);
+        other.listener(1, 300);
+        due("a state with other things of the same numbers", other.restore(1), 1);
+        due("the length of its notice", other.ofNotice(0, 0), 5);
+        due("the groups of its notice", other.ofNotice(0, 1), 63);
+        due("the group of its listener", other.of(0, 0), 0);
+        due("the bound of its listener", other.of(0, 1), 600);
+
         of("32", "This is a change");
         isChange("restore(0)", Edges::small, y -> y.restore(0));
         isChange("restore of what there is", () -> saved(small()), y -> y.restore(0));

@@ -254,6 +254,15 @@ final class ListenerEdges extends Edges {
         x.load(0, true);
         x.change(0, 1);
         due("not without a file", x.count(5), 2);
+        NoticeShifts y = rows(notices(new NoticeShifts(), 5, 5), "0");
+        y.listener(0, 600);
+        y.load(0, false);
+        rows(y, "1");
+        due("another notice in the only break", y.of(0, 3), 1);
+        rows(y, ".");
+        due("none in the only break", y.of(0, 3), 1);
+        rows(y, "0");
+        due("the same one in the only break", y.of(0, 3), 0);
     }
 
     // ---- promises 10 and 11
@@ -271,9 +280,16 @@ final class ListenerEdges extends Edges {
         x.undo();
         x.listener(3, 50);
         due("no file where one was undone", x.of(0, 2), 0);
+        NoticeShifts y = new NoticeShifts();
+        y.save(0);
+        y.listener(0, 0);
+        y.load(0, false);
+        y.restore(0);
+        y.listener(0, 0);
+        due("no file of a listener who is not there any more", y.of(0, 2), 0);
 
         of("10", "This is a change");
-        isChange("listener(0, 0)", Edges::small, y -> y.listener(0, 0));
+        isChange("listener(0, 0)", Edges::small, z -> z.listener(0, 0));
 
         of("10", "- `group`: 0 to 5");
         due("the least", x.listener(0, 5), 1);

@@ -286,6 +286,12 @@ final class TextEdges extends Edges {
         due("then it is empty", x.count(7), 0);
         due("it is no change", x.count(8), 0);
         due("there is room again", pad(x, "0".repeat(60)).count(7), 60);
+        for (String wiped : new String[] {"07", "0/", "00", "0."}) {
+            NoticeShifts y = pad(notices(new NoticeShifts(), 5), wiped);
+            y.wipe();
+            due("nothing is read of " + wiped, pad(y, "0").read(), 1);
+            due("but what was put behind it", y.sentence(0, 5), 1);
+        }
     }
 
     private void fault() {
